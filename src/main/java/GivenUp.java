@@ -98,6 +98,8 @@ public final class GivenUp {
     private static final int TEXT_END = 37;
     private static final int UNREADABLE = 38;
 
+    // A word is kept as a number to this base, its letters counted from 1, so that no two words are one number.
+    private static final int LETTERS = 27;
     private static final int NAME_LETTERS = 8;
     private static final int NUMBER_DIGITS = 4;
     // Where the NAMES of SUITORS, MAIDS and THINGS begin in the row of all NAMES.
@@ -652,16 +654,15 @@ public final class GivenUp {
         if (isOut(suitor, now.suitors)) {
             return refuse(BAD_NUMBER);
         }
-        return answer(now.hopeless(now.goods(suitor)));
+        return answer(now.goods(suitor) & now.hopeless);
     }
 
     public long ways(int suitor) {
         if (isOut(suitor, now.suitors)) {
             return refuse(BAD_NUMBER);
         }
-        int goods = now.goods(suitor);
         status = WELL;
-        return countOrders(goods & ~now.hopeless(goods));
+        return countOrders(now.goods(suitor) & ~now.hopeless);
     }
 
     public int lies(int suitor, int maid, int what) {
@@ -925,14 +926,9 @@ public final class GivenUp {
                 if (sign == ' ') {
                     word++;
                 } else {
-                    own[word] = withLetter(own[word], sign);
+                    own[word] = own[word] * LETTERS + (sign - 'a' + 1);
                 }
             }
-        }
-
-        /** Words of as many letters as a NAME may have are told apart by one number each. */
-        private static long withLetter(long word, int letter) {
-            return word * 27 + (letter - 'a' + 1);
         }
 
         void append(int four) {
@@ -959,50 +955,39 @@ public final class GivenUp {
             start = next;
             if (next >= end) {
                 kind = TEXT_END;
-            } else if (isLetter(next)) {
-                readWord();
-            } else if (isDigit(next)) {
-                readNumber();
-            } else {
+            } else if (!readWord() && !readNumber()) {
                 kind = signKind(tape[next]);
                 next++;
             }
         }
 
-        private boolean isLetter(int place) {
-            return place < end && tape[place] >= 'a' && tape[place] <= 'z';
-        }
-
-        private boolean isDigit(int place) {
-            return place < end && tape[place] >= '0' && tape[place] <= '9';
-        }
-
-        private void readWord() {
-            long word = 0;
-            while (isLetter(next)) {
+        private boolean readWord() {
+            name = 0;
+            while (next < end && tape[next] >= 'a' && tape[next] <= 'z') {
                 if (next - start < NAME_LETTERS) {
-                    word = withLetter(word, tape[next]);
+                    name = name * LETTERS + (tape[next] - 'a' + 1);
                 }
                 next++;
             }
-            name = word;
             kind = next - start > NAME_LETTERS ? LONG_WORD : NAME;
             for (int i = 0; i < OWN && kind == NAME; i++) {
-                if (own[i] == word) {
+                if (own[i] == name) {
                     kind = i;
                 }
             }
+            return next > start;
         }
 
-        private void readNumber() {
+        private boolean readNumber() {
             number = 0;
-            while (isDigit(next)) {
+            while (next < end && tape[next] >= '0' && tape[next] <= '9') {
                 if (next - start < NUMBER_DIGITS) {
                     number = number * 10 + (tape[next] - '0');
                 }
                 next++;
             }
             kind = next - start > NUMBER_DIGITS ? UNREADABLE : NUMBER;
+            return next > start;
         }
 
         private static int signKind(int sign) {
@@ -1127,7 +1112,7 @@ public final class GivenUp {
                 }
             }
             if (fine) {
-                v.findNeeds();
+                v.complete();
             }
             return fine;
         }
@@ -1350,7 +1335,8 @@ public final class GivenUp {
             }
             y.act[y.lines] = in.kind;
             in.step();
-            if (!readWhat(y, v) || !in.skip(SEMICOLON)) {
+            boolean fine = y.act[y.lines] == WHEN ? readTest(y, v) : readDeed(y, v);
+            if (!fine || !in.skip(SEMICOLON)) {
                 return false;
             }
             if (opens) {
@@ -1379,7 +1365,7 @@ public final class GivenUp {
             }
         }
 
-        private boolean readWhat(Years y, Valley v) {
+        private boolean readDeed(Years y, Valley v) {
             int line = y.lines;
             switch (y.act[line]) {
                 case GIVE:
@@ -1388,11 +1374,15 @@ public final class GivenUp {
                     y.who[line] = in.member(v.names, THING_NAMES, v.things);
                     return y.who[line] >= 0;
                 case ANY:
-                    return readSuitor(y, v);
+                    y.who[line] = in.member(v.names, 0, v.suitors);
+                    return y.who[line] >= 0;
                 case WED:
-                    return readPair(y, v, WITH);
-                case WHEN:
-                    return readTest(y, v);
+                    y.who[line] = in.member(v.names, 0, v.suitors);
+                    if (y.who[line] < 0 || !in.skip(WITH)) {
+                        return false;
+                    }
+                    y.whom[line] = in.member(v.names, MAID_NAMES, v.maids);
+                    return y.whom[line] >= 0;
                 case LOOP:
                     y.number[line] = in.amount(1, 99);
                     return y.number[line] >= 0;
@@ -1401,44 +1391,33 @@ public final class GivenUp {
             }
         }
 
-        private boolean readSuitor(Years y, Valley v) {
-            y.who[y.lines] = in.member(v.names, 0, v.suitors);
-            return y.who[y.lines] >= 0;
-        }
-
-        private boolean readPair(Years y, Valley v, int between) {
-            if (!readSuitor(y, v) || !in.skip(between)) {
-                return false;
-            }
-            y.whom[y.lines] = in.member(v.names, MAID_NAMES, v.maids);
-            return y.whom[y.lines] >= 0;
-        }
-
-        /** The TEST takes the place of the when: its word tells what is to be done. */
+        /** The word of the TEST takes the place of the when. */
         private boolean readTest(Years y, Valley v) {
+            int line = y.lines;
             int test = in.kind;
             if (test != HEARD && test != YES && test != BARE) {
                 return in.misplaced();
             }
-            y.act[y.lines] = test;
+            y.act[line] = test;
             in.step();
-            if (test == BARE) {
-                return readSuitor(y, v);
+            y.who[line] = in.member(v.names, 0, v.suitors);
+            if (y.who[line] < 0 || test == BARE) {
+                return y.who[line] >= 0;
             }
-            if (!readPair(y, v, TO)) {
+            if (!in.skip(TO)) {
                 return false;
             }
-            return test == YES || readComparison(y);
-        }
-
-        private boolean readComparison(Years y) {
+            y.whom[line] = in.member(v.names, MAID_NAMES, v.maids);
+            if (y.whom[line] < 0 || test == YES) {
+                return y.whom[line] >= 0;
+            }
             if (in.kind != LESS && in.kind != MORE && in.kind != EQUAL) {
                 return in.misplaced();
             }
-            y.compare[y.lines] = in.kind;
+            y.compare[line] = in.kind;
             in.step();
-            y.number[y.lines] = in.amount(0, 9999);
-            return y.number[y.lines] >= 0;
+            y.number[line] = in.amount(0, 9999);
+            return y.number[line] >= 0;
         }
     }
 
@@ -1516,7 +1495,7 @@ public final class GivenUp {
         final int[] worth = new int[THINGS];
         final int[] after = new int[THINGS];
         final int[] need = new int[THINGS];
-        // NONE: the THING says its WORTH.
+        // While a text is read, NONE stands where nothing was told yet.
         final int[] say = new int[THINGS * MAIDS];
         final Deeds deeds = new Deeds();
         final Years years = new Years();
@@ -1526,6 +1505,7 @@ public final class GivenUp {
         int afters = 0;
         int weekly = 0;
         int fair = 0;
+        int hopeless = 0;
 
         Valley() {
             clear();
@@ -1537,6 +1517,7 @@ public final class GivenUp {
             Arrays.fill(after, 0);
             Arrays.fill(need, 0);
             Arrays.fill(say, NONE);
+            hopeless = 0;
             deeds.clear();
             years.clear();
             suitors = 0;
@@ -1567,6 +1548,7 @@ public final class GivenUp {
             afters = other.afters;
             weekly = other.weekly;
             fair = other.fair;
+            hopeless = other.hopeless;
         }
 
         void addThing(long name, int suitor, int much) {
@@ -1576,8 +1558,19 @@ public final class GivenUp {
             things++;
         }
 
+        /** What follows from all that was told, once and for all. */
+        void complete() {
+            for (int i = 0; i < THINGS * MAIDS; i++) {
+                say[i] = say[i] < 0 ? worth[i / MAIDS] : say[i];
+            }
+            findNeeds();
+            for (int thing = 0; thing < things; thing++) {
+                hopeless |= isHopeless(thing) ? 1 << thing : 0;
+            }
+        }
+
         /** AFTER by others too: through each THING in turn go all that are AFTER it. */
-        void findNeeds() {
+        private void findNeeds() {
             System.arraycopy(after, 0, need, 0, THINGS);
             for (int middle = 0; middle < THINGS; middle++) {
                 for (int thing = 0; thing < THINGS; thing++) {
@@ -1588,17 +1581,7 @@ public final class GivenUp {
             }
         }
 
-        /** Which THINGS of a set NEVER can be GIVEN. */
-        int hopeless(int set) {
-            int found = 0;
-            for (int thing = 0; thing < things; thing++) {
-                if (holds(set, thing) && isHopeless(thing)) {
-                    found |= 1 << thing;
-                }
-            }
-            return found;
-        }
-
+        /** In a ring, or AFTER what is in one. */
         private boolean isHopeless(int thing) {
             int line = need[thing] | 1 << thing;
             for (int other = 0; other < things; other++) {
@@ -1610,7 +1593,7 @@ public final class GivenUp {
         }
 
         int deep(int thing) {
-            return isHopeless(thing) ? NEVER_DEEP : Integer.bitCount(need[thing]);
+            return holds(hopeless, thing) ? NEVER_DEEP : Integer.bitCount(need[thing]);
         }
 
         int firsts(int given) {
@@ -1667,14 +1650,13 @@ public final class GivenUp {
         }
 
         int word(int thing, int maid) {
-            int told = say[thing * MAIDS + maid];
-            return told < 0 ? worth[thing] : told;
+            return say[thing * MAIDS + maid];
         }
 
         int saying(int set, int maid) {
             int sum = 0;
             for (int thing = 0; thing < things; thing++) {
-                sum += holds(set, thing) ? word(thing, maid) : 0;
+                sum += (set & 1 << thing) != 0 ? say[thing * MAIDS + maid] : 0;
             }
             return sum;
         }
@@ -1717,8 +1699,8 @@ public final class GivenUp {
 
         private boolean canGive(int thing) {
             int suitor = of[thing];
-            return stateOf(thing) == 0 && !isWed(suitor) && (after[thing] & ~deeds.given) == 0
-                    && deeds.thisWeek[suitor] < weekly;
+            return ((deeds.given | deeds.feigned) & 1 << thing) == 0 && !isWed(suitor)
+                    && (after[thing] & ~deeds.given) == 0 && deeds.thisWeek[suitor] < weekly;
         }
 
         int givable(int suitor) {
@@ -1883,8 +1865,7 @@ public final class GivenUp {
 
         /** Those that need less stand first: so each stands behind all that it needs. */
         private void gather(Valley v, int suitor, int maid) {
-            int goods = v.goods(suitor);
-            int free = goods & ~v.deeds.given & ~v.deeds.feigned & ~v.hopeless(goods);
+            int free = v.goods(suitor) & ~v.deeds.given & ~v.deeds.feigned & ~v.hopeless;
             items = 0;
             for (int deep = 0; deep < THINGS; deep++) {
                 for (int thing = 0; thing < v.things && items < THINGS; thing++) {

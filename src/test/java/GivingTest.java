@@ -172,6 +172,9 @@ public final class GivingTest {
         Check.well(x, "yes to one who has WED", x.yes(1, 1), 0);
         Check.well(x, "yes of one who has WED", x.yes(2, 0), 0);
         Check.well(x, "lacks to one who has WED", x.lacks(1, 1), -6);
+        GivenUp y = Check.with("suitor s;suitor t;maid m bar 0;");
+        y.wed(0, 0);
+        Check.well(y, "yes to one who has WED the first SUITOR", y.yes(1, 0), 0);
     }
 
     private static void wed() {
@@ -312,6 +315,11 @@ public final class GivingTest {
         Check.well(x, "not a GIVEN one", x.dearest(1, 0), 4);
         x.give(4);
         Check.refused(x, "none is left", x.dearest(1, 0), 6);
+        GivenUp y = Check.with("suitor s;maid m bar 0;maid n bar 0;maid o bar 0;thing a of s worth 0;thing b of s worth 1;"
+                + "says a to m 1;says b to m 3;says a to n 1;says b to n 2;says a to o 2;says b to o 3;");
+        Check.well(y, "3 for 2 is more than 1 for 1", y.dearest(0, 0), 1);
+        Check.well(y, "2 for 2 is alike: the first", y.dearest(0, 1), 0);
+        Check.well(y, "3 for 2 is less than 2 for 1", y.dearest(0, 2), 0);
     }
 
     private static void share() {
@@ -343,6 +351,9 @@ public final class GivingTest {
         Check.well(x, "and no other", x.likes(0, 1), 0);
         Check.well(x, "like 0", x.like(0, 0, 0));
         Check.well(x, "likes no more", x.likes(0, 0), 0);
+        Check.well(x, "like of another two", x.like(1, 1, 5));
+        Check.well(x, "likes of those", x.likes(1, 1), 5);
+        Check.well(x, "and of no others", x.likes(1, 0) + x.likes(0, 1) + x.likes(0, 0), 0);
     }
 
     private static void bar() {

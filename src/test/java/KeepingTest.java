@@ -56,6 +56,12 @@ public final class KeepingTest {
         Check.well(x, "s and m; neither t nor n bolts from a like one", x.bolts(0), 1);
         x.wed(2, 0);
         Check.well(x, "WED or not", x.bolts(0), 1);
+        GivenUp y = Check.with("suitor s;suitor t;maid m bar 0;maid n bar 0;likes s m 1;likes t n 1;");
+        couples(y, 0, 1, 0);
+        Check.well(y, "HEARD alike is not more", y.bolts(0), 0);
+        y.like(0, 0, 0);
+        couples(y, 0, 1, -1);
+        Check.well(y, "LIKED alike is not more, but t has none", y.bolts(0), 1);
         GivenUp nobody = new GivenUp();
         nobody.tray(0, 0, 0);
         Check.well(nobody, "bolts of nobody", nobody.bolts(0), 0);
@@ -80,6 +86,12 @@ public final class KeepingTest {
         couples(x, 0, -1, 0, -1);
         Check.well(x, "the first by SUITORS", x.bolter(0, 0), 0);
         Check.well(x, "then by MAIDS", x.bolter(0, 1), 0);
+        couples(x, 0, 0, -1, -1);
+        Check.well(x, "the first of another's", x.bolter(0, 0), 0);
+        Check.well(x, "who has none yet", x.bolter(0, 1), 1);
+        couples(x, 0, 0, 1, -1);
+        Check.refused(x, "none behind others", x.bolter(0, 0), 6);
+        Check.refused(x, "no MAID of none", x.bolter(0, 1), 6);
     }
 
     private static void asked() {
@@ -99,6 +111,35 @@ public final class KeepingTest {
         Check.well(y, "WED or not", y.asked(0), 1);
         GivenUp z = Check.with("suitor s;");
         Check.refused(z, "no MAIDS", z.asked(0), 6);
+        longest();
+    }
+
+    /** Four and four in which the asking goes on for ten rounds, as long as it ever can. */
+    private static void longest() {
+        int[][] likes = {{1, 3, 0, 2}, {1, 2, 0, 3}, {3, 1, 0, 2}, {3, 2, 0, 1}};
+        int[][] hears = {{3, 0, 2, 2}, {0, 2, 1, 0}, {2, 3, 3, 1}, {1, 1, 0, 3}};
+        StringBuilder text = new StringBuilder("suitor a;suitor b;suitor c;suitor d;"
+                + "maid m bar 9;maid n bar 9;maid o bar 9;maid p bar 9;"
+                + "thing e of a worth 9;thing f of b worth 9;thing g of c worth 9;thing h of d worth 9;");
+        for (int s = 0; s < 4; s++) {
+            for (int m = 0; m < 4; m++) {
+                text.append("likes ").append("abcd".charAt(s)).append(" ").append("mnop".charAt(m)).append(" ")
+                        .append(likes[s][m]).append(";says ").append("efgh".charAt(s)).append(" to ")
+                        .append("mnop".charAt(m)).append(" ").append(hears[s][m]).append(";");
+            }
+        }
+        GivenUp x = Check.with(text.toString());
+        for (int thing = 0; thing < 4; thing++) {
+            x.give(thing);
+        }
+        Check.well(x, "nine refusals", x.refusals(), 9);
+        int[] due = {0, 2, 1, 3};
+        for (int s = 0; s < 4; s++) {
+            Check.well(x, "the MAID of " + s, x.asked(s), due[s]);
+        }
+        x.tray(0, 0, 4);
+        Check.well(x, "all are kept", x.keep(0), 4);
+        Check.well(x, "and nobody bolts", x.bolts(0), 0);
     }
 
     private static void refusals() {

@@ -96,6 +96,9 @@ public final class LivingTest {
         fault("when yes s m;", 2, 11);
         fault("when bare m;", 3, 10);
         fault("when bare s", 2, 11);
+        fault("loop 1;end", 2, 10);
+        fault("loop 1;end week;", 2, 11);
+        fault("week week;", 2, 5);
     }
 
     private static void tooManyAndTooDeep() {
@@ -211,6 +214,10 @@ public final class LivingTest {
         Check.well(x, "c, then a", x.told(8), 5);
         Check.well(x, "any without such is MISSED", x.lived(0), 1);
         Check.well(x, "GIVEN by any", x.lived(2), 2);
+        GivenUp z = Check.with("suitor s;thing a of s worth 1;", "any s;");
+        z.live(0);
+        Check.well(z, "any of one alone", z.lived(2), 1);
+        Check.well(z, "is not MISSED", z.lived(0), 0);
         // Seed 5: 25764, 3220, by 2: 0; the THING by a draw is one of those that he may GIVE, a is GIVEN already.
         GivenUp y = Check.with("suitor s;suitor t;thing a of s worth 1;thing b of s worth 2;thing c of s worth 4;weekly 9;",
                 "give a;any t;any s;");

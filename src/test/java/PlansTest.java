@@ -64,6 +64,10 @@ public final class PlansTest {
         Check.well(x, "by giving nothing", x.leastSet(2, 1, 0), 0);
         Check.well(x, "by none", x.fewest(2, 1, 0), 0);
         Check.well(x, "at once", x.soonest(2, 1), 0);
+        Check.well(x, "by nothing, though he has THINGS", x.least(0, 1, 9), 0);
+        Check.well(x, "its set", x.leastSet(0, 1, 9), 0);
+        Check.well(x, "its count", x.fewest(0, 1, 9), 0);
+        Check.well(x, "its WEEKS", x.soonest(0, 1), 0);
         x.bar(1, 6);
         x.give(0);
         Check.well(x, "what is GIVEN helps", x.least(0, 1, 0), 6);
@@ -216,6 +220,14 @@ public final class PlansTest {
         Check.refused(x, "neither ever", x.rivals(1, 2, 0), 6);
         x.bar(1, 0);
         Check.well(x, "alike: the elder", x.rivals(0, 2, 1), 2);
+        StringBuilder slow = new StringBuilder("suitor s;suitor t;maid m bar 4;weekly 1;");
+        for (int i = 0; i < 4; i++) {
+            slow.append("thing ").append((char) ('a' + i)).append(" of ").append(i < 3 ? "s" : "t").append(" worth 1;");
+        }
+        GivenUp z = Check.with(slow.toString());
+        Check.refused(z, "neither with what they have", z.rivals(0, 1, 0), 6);
+        z.bar(0, 3);
+        Check.well(z, "one in two WEEKS", z.rivals(1, 0, 0), 0);
         GivenUp y = Check.with("suitor s age 90;suitor t;maid m bar 9;thing a of s worth 4;thing b of s worth 5;"
                 + "thing c of t worth 9;weekly 1;");
         Check.well(y, "SOONEST goes ahead of AGE", y.rivals(0, 1, 0), 1);
@@ -253,6 +265,10 @@ public final class PlansTest {
         Check.well(z, "none now", z.village(0, 0), 0);
         Check.well(z, "n in two WEEKS", z.villager(1, 0), 1);
         Check.well(z, "by all", z.village(1, 1), 10);
+        z.bar(1, 11);
+        Check.well(z, "none any more", z.village(1, 0), 0);
+        Check.well(z, "nor LOSS any more", z.village(1, 1), 0);
+        Check.refused(z, "nor a MAID", z.villager(1, 0), 6);
     }
 
     private static void villageTies() {

@@ -20,6 +20,7 @@ public final class TextsTest {
         thing();
         says();
         likes();
+        nothingIsLeftOver();
         Check.end("TextsTest");
     }
 
@@ -119,6 +120,9 @@ public final class TextsTest {
 
     private static void suitorParts() {
         Check.fine("suitor abcdefgh age 0 cows 0;");
+        Check.fine("suitor zaz;suitor az;suitor z;");
+        Check.fault("suitor zaz;suitor zaz;", 3, 18);
+        Check.fault("suitor az;suitor za;suitor az;", 3, 27);
         Check.fine("suitor a age 99 cows 99;");
         Check.fine("suitor a cows 5;");
         Check.fault("suitor abcdefghi;", 2, 7);
@@ -190,6 +194,14 @@ public final class TextsTest {
         Check.fault("weekly 2;fair 4;weekly 2;", 5, 16);
         Check.fault("fair 4;weekly 2;fair", 5, 16);
         Check.fault("weekly ;", 2, 7);
+        Check.fault("weekly 1", 2, 8);
+        Check.fault("fair 1 1;", 2, 7);
+        Check.fault(s + "thing u of s worth 1;after t u", 2, n + 30);
+        Check.fault(s + "thing u of s worth 1;after t u t;", 2, n + 31);
+        Check.fault(s + "says t to m 1", 2, n + 13);
+        Check.fault(s + "likes s m 1", 2, n + 11);
+        Check.fault(s + "likes s m 1 1;", 2, n + 12);
+        Check.fault("maid m bar 1", 2, 12);
     }
 
     private static void tooMany() {
@@ -315,6 +327,48 @@ public final class TextsTest {
         Check.refused(x, "says(-1, 0)", x.says(-1, 0), 1);
         Check.refused(x, "says(0, 3)", x.says(0, 3), 1);
         Check.refused(x, "says(0, -1)", x.says(0, -1), 1);
+    }
+
+    /** Whatever a valley had, a later one begins with nothing of it. */
+    private static void nothingIsLeftOver() {
+        String full = "suitor s age 9 cows 9;suitor t age 9 cows 9;maid m bar 0 rises 9 mother 9;maid n bar 9 rises 9 mother 9;"
+                + "thing a of s worth 9;thing b of s worth 9;thing c of t worth 9;says a to m 8;says b to n 8;after a b;after b a;"
+                + "likes s m 9;likes t n 9;weekly 9;fair 9;";
+        GivenUp x = new GivenUp();
+        // Three times, so that each of the places where a valley may be kept has had a full one.
+        for (int i = 0; i < 3; i++) {
+            Check.valley(x, full);
+            Check.years(x, "week;loop 2;week;end;");
+            x.give(2);
+            x.feign(2);
+            x.wed(0, 0);
+            x.mean(0, 0, 1);
+            Check.valley(x, "suitor a;suitor");
+            Check.years(x, "loop 2;when bare s;");
+            x.week();
+        }
+        Check.valley(x, "suitor s;suitor t;maid m bar 0;maid n bar 0;thing a of s worth 1;thing b of s worth 1;thing c of t worth 1;");
+        int[] told = {2, 2, 3, 0, 2, 4, 0, 0, 0, 0};
+        for (int what = 0; what < told.length; what++) {
+            Check.well(x, "told(" + what + ") behind full ones", x.told(what), told[what]);
+        }
+        for (int i = 0; i < 2; i++) {
+            Check.well(x, "AGE", x.suitor(i, 0), 20);
+            Check.well(x, "COWS", x.suitor(i, 1), 0);
+            Check.well(x, "this WEEK", x.suitor(i, 2), 0);
+            Check.refused(x, "his MAID", x.suitor(i, 5), 6);
+            Check.well(x, "RISES", x.maid(i, 1), 0);
+            Check.well(x, "MOTHER", x.maid(i, 2), 0);
+            Check.refused(x, "her SUITOR", x.maid(i, 4), 6);
+            Check.well(x, "LIKES", x.likes(i, i), 0);
+            Check.well(x, "SAYS", x.says(i, i), 1);
+            Check.well(x, "AFTER", x.thing(i, 3), 0);
+            Check.well(x, "DEEP", x.thing(i, 4), 0);
+            Check.well(x, "needs", x.needs(i), 0);
+        }
+        Check.refused(x, "YEARS", x.live(0), 6);
+        Check.well(x, "one STEP behind open ones", Check.years(x, "week;"), 1);
+        Check.refused(x, "their end", Check.years(x, "end;"), 9);
     }
 
     private static void likes() {

@@ -62,6 +62,8 @@ public final class TraysTest {
         x.give(1);
         x.share(0, 0);
         Check.fraction(x, "share of all", 1, 1);
+        GivenUp y = Check.with("suitor s;maid m bar 1;thing a of s worth 1;");
+        Check.well(y, "share of a THING that says 1", y.share(0, 0));
     }
 
     private static void tray() {
@@ -162,5 +164,8 @@ public final class TraysTest {
             Check.well(x, "poured down " + i, x.read(0, i), down[i]);
         }
         Check.well(x, "pour of none", x.pour(0, 4, 1, 6, 0));
+        x.tray(2, 1, 4);
+        Check.well(x, "pour of a whole TRAY to a whole one", x.pour(0, 0, 2, 0, 4));
+        Check.well(x, "its last number", x.read(2, 3), 12);
     }
 }
