@@ -5,6 +5,7 @@ import java.nio.charset.StandardCharsets;
 import java.util.ArrayList;
 import java.util.Comparator;
 import java.util.List;
+import java.util.Map;
 import java.util.Random;
 
 /** Long runs of random calls, each answered by GivenUp and by the plain model alike. */
@@ -17,6 +18,8 @@ public final class AgainstPlainModelTest {
     private final PlainModel plain = new PlainModel();
     private final StringBuilder told = new StringBuilder();
     private int calls = 0;
+    // How many SUITORS, MAIDS, THINGS there are now.
+    private int[] counts = new int[3];
     private static final List<Method> METHODS = methods();
 
     private AgainstPlainModelTest(long seed) {
@@ -108,6 +111,19 @@ public final class AgainstPlainModelTest {
         return wrong;
     }
 
+    // Of which sort the first numbers of a call are: SUITORS, MAIDS, THINGS.
+    private static final Map<String, String> WHO = Map.ofEntries(
+            Map.entry("suitor", "S"), Map.entry("maid", "M"), Map.entry("thing", "T"), Map.entry("says", "TM"),
+            Map.entry("likes", "SM"), Map.entry("give", "T"), Map.entry("feign", "T"), Map.entry("found", "T"),
+            Map.entry("may", "S"), Map.entry("heard", "SM"), Map.entry("yes", "SM"), Map.entry("lacks", "SM"),
+            Map.entry("wed", "SM"), Map.entry("back", "T"), Map.entry("bare", "S"), Map.entry("wouldHave", "M"),
+            Map.entry("proud", "M"), Map.entry("dearest", "SM"), Map.entry("share", "SM"), Map.entry("like", "SM"),
+            Map.entry("bar", "M"), Map.entry("least", "SM"), Map.entry("leastSet", "SM"), Map.entry("fewest", "SM"),
+            Map.entry("soonest", "SM"), Map.entry("most", "SM"), Map.entry("rivals", "SSM"), Map.entry("cheapest", "S"),
+            Map.entry("within", "S"), Map.entry("asked", "S"), Map.entry("orders", "S"), Map.entry("ends", "S"),
+            Map.entry("needs", "T"), Map.entry("never", "S"), Map.entry("ways", "S"), Map.entry("lies", "SM"),
+            Map.entry("cheats", "M"), Map.entry("mean", "S"));
+
     private static final String[] OFTEN = {"give", "give", "give", "feign", "week", "week", "wed", "wed", "back", "found",
         "live", "mean", "mark", "undo", "like", "bar", "write", "bolts", "keep", "least", "village", "orders", "tray"};
 
@@ -167,6 +183,10 @@ public final class AgainstPlainModelTest {
         if (name.equals("like") && at == 2) {
             return random.nextInt(10) == 0 ? random.nextInt(102) - 1 : random.nextInt(5);
         }
+        if (random.nextInt(20) > 0 && WHO.containsKey(name) && at < WHO.get(name).length()) {
+            int many = counts["SMT".indexOf(WHO.get(name).charAt(at))];
+            return many == 0 ? 0 : random.nextInt(many);
+        }
         boolean thing = at == 0 && List.of("give", "feign", "found", "back", "thing", "says", "needs").contains(name);
         if (thing) {
             return random.nextInt(14) - 1;
@@ -193,6 +213,7 @@ public final class AgainstPlainModelTest {
         } catch (InvocationTargetException e) {
             got = "throws " + e.getCause();
         }
+        counts = plain.counts();
         String call = name + java.util.Arrays.toString(args);
         told.append("    ").append(call).append(" ").append(want).append("\n");
         if (!want.equals(got)) {

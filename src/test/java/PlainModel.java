@@ -724,6 +724,11 @@ public final class PlainModel {
         }
     }
 
+    /** For the tests alone: how many SUITORS, MAIDS, THINGS, without a STATUS. */
+    int[] counts() {
+        return new int[] {world.suitors.size(), world.maids.size(), world.things.size()};
+    }
+
     public int told(int what) {
         return askInt(() -> {
             needIn(what, 0, 9);

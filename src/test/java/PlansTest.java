@@ -68,6 +68,9 @@ public final class PlansTest {
         Check.well(x, "its set", x.leastSet(0, 1, 9), 0);
         Check.well(x, "its count", x.fewest(0, 1, 9), 0);
         Check.well(x, "its WEEKS", x.soonest(0, 1), 0);
+        GivenUp y = Check.with("suitor s;maid m bar 0;thing a of s worth 1;thing b of s worth 1;weekly 1;");
+        y.give(0);
+        Check.well(y, "at once, though more would be later", y.soonest(0, 0), 0);
         x.bar(1, 6);
         x.give(0);
         Check.well(x, "what is GIVEN helps", x.least(0, 1, 0), 6);

@@ -56,9 +56,10 @@ public final class RulesTest {
     private static void words(String source) {
         String code = source.replaceAll("(?s)/\\*.*?\\*/", "").replaceAll("//[^\n]*", "");
         for (String word : List.of("throw", "try", "catch", "synchronized", "assert", "protected", "package", "var",
-                "System\\.(?!arraycopy).*", "->", "::", "toString", "hashCode", "\\w*Exact", "enum", "volatile")) {
+                "System\\.(?!arraycopy).*", "\\w*Exact", "enum", "volatile")) {
             no("the source has " + word, Pattern.compile("(?<![\\w.])" + word + "(?!\\w)").matcher(code).find());
         }
+        no("a lambda or a method reference", code.contains("->") || code.contains("::"));
         no("texts joined by +", Pattern.compile("\"\\s*\\+|\\+\\s*\"").matcher(code).find());
         Matcher imports = Pattern.compile("(?m)^import (.*);").matcher(code);
         while (imports.find()) {

@@ -339,13 +339,12 @@ public final class TextsTest {
         for (int i = 0; i < 3; i++) {
             Check.valley(x, full);
             Check.years(x, "week;loop 2;week;end;");
+            x.week();
             x.give(2);
-            x.feign(2);
             x.wed(0, 0);
             x.mean(0, 0, 1);
             Check.valley(x, "suitor a;suitor");
             Check.years(x, "loop 2;when bare s;");
-            x.week();
         }
         Check.valley(x, "suitor s;suitor t;maid m bar 0;maid n bar 0;thing a of s worth 1;thing b of s worth 1;thing c of t worth 1;");
         int[] told = {2, 2, 3, 0, 2, 4, 0, 0, 0, 0};
