@@ -10,7 +10,10 @@ import java.util.Random;
 
 /** Long runs of random calls, each answered by GivenUp and by the plain model alike. */
 public final class AgainstPlainModelTest {
+    // What later calls answer is free.
     private static final int CALLS = 512;
+    // A VALLEY's text by 45 calls, itself, the FAULT by two; YEARS that are too long, taken off by another.
+    private static final int CALLS_OF_A_TEXT = 50;
 
     private final Random random;
     private final Texts texts;
@@ -65,7 +68,7 @@ public final class AgainstPlainModelTest {
     private String run() throws Exception {
         String wrong = null;
         while (wrong == null && calls < CALLS) {
-            int kind = random.nextInt(100);
+            int kind = calls + CALLS_OF_A_TEXT > CALLS ? 99 : random.nextInt(100);
             if (calls == 0 || kind < 1) {
                 String text = texts.valley();
                 wrong = text("valley", random.nextInt(100) < 12 ? texts.spoil(text) : text);
@@ -144,12 +147,16 @@ public final class AgainstPlainModelTest {
         return call(m.getName(), args);
     }
 
+    /** To WEEK 999, by lives that are some 300 WEEKS each. */
     private String manyWeeks() throws Exception {
-        for (int i = 0; i < 1000; i++) {
-            ours.week();
-            plain.week();
+        if (calls + CALLS_OF_A_TEXT > CALLS) {
+            return null;
         }
-        return call("week");
+        String wrong = text("years", "loop 99;week;week;week;end;");
+        for (int i = 0; i < 4 && wrong == null; i++) {
+            wrong = call("live", i);
+        }
+        return wrong != null ? wrong : call("week");
     }
 
     private long numberToWrite() {

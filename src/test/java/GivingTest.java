@@ -112,10 +112,7 @@ public final class GivingTest {
     }
 
     private static void week() {
-        GivenUp x = Check.with(VALLEY);
-        for (int week = 1; week <= 999; week++) {
-            x.week();
-        }
+        GivenUp x = Due.toWeek(Check.with(VALLEY), 999);
         Check.well(x, "the last WEEK", x.told(6), 999);
         x.give(0);
         Check.refused(x, "week behind 999", x.week(), 4);

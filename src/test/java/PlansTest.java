@@ -133,9 +133,7 @@ public final class PlansTest {
         Check.well(x, "all twelve", x.soonest(0, 0), 11);
         Check.refused(x, "one WEEK too few", x.least(0, 0, 10), 6);
         Check.well(x, "enough of them", x.least(0, 0, 11), 12);
-        for (int i = 0; i < 988; i++) {
-            x.week();
-        }
+        Due.toWeek(x, 988);
         Check.well(x, "in WEEK 999", x.soonest(0, 0), 11);
         x.week();
         Check.refused(x, "WEEK 1000 never comes", x.soonest(0, 0), 6);
