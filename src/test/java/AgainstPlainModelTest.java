@@ -12,8 +12,10 @@ import java.util.Random;
 public final class AgainstPlainModelTest {
     // What later calls answer is free.
     private static final int CALLS = 512;
-    // A VALLEY's text by 45 calls, itself, the FAULT by two; YEARS that are too long, taken off by another.
-    private static final int CALLS_OF_A_TEXT = 50;
+    // 45 times feed, the VALLEY or YEARS, the FAULT by two, what may be left on the tape; each with its STATUS.
+    private static final int CALLS_OF_A_TEXT = 98;
+    // A call, its STATUS, the FRACTION by two; and the FRACTION once more at the end.
+    private static final int CALLS_OF_ANOTHER = 6;
 
     private final Random random;
     private final Texts texts;
@@ -31,7 +33,7 @@ public final class AgainstPlainModelTest {
     }
 
     public static void main(String[] args) throws Exception {
-        int runs = args.length > 0 ? Integer.parseInt(args[0]) : 400;
+        int runs = args.length > 0 ? Integer.parseInt(args[0]) : 1000;
         long first = args.length > 1 ? Long.parseLong(args[1]) : 1;
         for (long seed = first; seed < first + runs; seed++) {
             AgainstPlainModelTest run = new AgainstPlainModelTest(seed);
@@ -67,8 +69,8 @@ public final class AgainstPlainModelTest {
 
     private String run() throws Exception {
         String wrong = null;
-        while (wrong == null && calls < CALLS) {
-            int kind = calls + CALLS_OF_A_TEXT > CALLS ? 99 : random.nextInt(100);
+        while (wrong == null && hasLeft(CALLS_OF_ANOTHER)) {
+            int kind = hasLeft(CALLS_OF_A_TEXT + CALLS_OF_ANOTHER) ? random.nextInt(100) : 99;
             if (calls == 0 || kind < 1) {
                 String text = texts.valley();
                 wrong = text("valley", random.nextInt(100) < 12 ? texts.spoil(text) : text);
@@ -79,7 +81,11 @@ public final class AgainstPlainModelTest {
                 wrong = one();
             }
         }
-        return wrong;
+        return wrong == null ? fraction("the run") : wrong;
+    }
+
+    private boolean hasLeft(int many) {
+        return calls + many <= CALLS;
     }
 
     private String text(String name, String text) throws Exception {
@@ -104,7 +110,7 @@ public final class AgainstPlainModelTest {
         if (wrong == null) {
             wrong = call(name, bytes.length);
         }
-        if (wrong == null && ours.status() == 1) {
+        if (wrong == null && plain.status() == 1) {
             // YEARS that are too long stay on the tape; as a valley they are taken off it.
             wrong = call("valley", bytes.length);
         }
@@ -149,7 +155,7 @@ public final class AgainstPlainModelTest {
 
     /** To WEEK 999, by lives that are some 300 WEEKS each. */
     private String manyWeeks() throws Exception {
-        if (calls + CALLS_OF_A_TEXT > CALLS) {
+        if (!hasLeft(CALLS_OF_A_TEXT + CALLS_OF_ANOTHER)) {
             return null;
         }
         String wrong = text("years", "loop 99;week;week;week;end;");
@@ -212,7 +218,7 @@ public final class AgainstPlainModelTest {
 
     private String call(String name, Object... args) throws Exception {
         Method m = method(name);
-        calls++;
+        calls += 2;
         Object want = PlainModel.class.getMethod(name, m.getParameterTypes()).invoke(plain, args);
         Object got;
         try {
@@ -226,12 +232,18 @@ public final class AgainstPlainModelTest {
         if (!want.equals(got)) {
             return call + " answered " + got + ", due is " + want;
         }
-        if (plain.status() != ours.status()) {
-            return call + " has STATUS " + ours.status() + ", due is " + plain.status();
+        int status = ours.status();
+        if (plain.status() != status) {
+            return call + " has STATUS " + status + ", due is " + plain.status();
         }
-        if (plain.top() != ours.top() || plain.bottom() != ours.bottom()) {
-            return call + " tells " + ours.top() + " by " + ours.bottom() + ", due is " + plain.top() + " by " + plain.bottom();
-        }
-        return null;
+        return name.equals("share") || name.equals("mean") ? fraction(call) : null;
+    }
+
+    private String fraction(String call) {
+        calls += 2;
+        long top = ours.top();
+        long bottom = ours.bottom();
+        return plain.top() == top && plain.bottom() == bottom ? null
+                : call + " tells " + top + " by " + bottom + ", due is " + plain.top() + " by " + plain.bottom();
     }
 }
