@@ -163,7 +163,7 @@ public final class ReadmeTest {
         for (Block block : blocks) {
             if (block.kind.equals("text")) {
                 for (String line : block.lines) {
-                    String printed = line.replaceFirst("(?<=^passed: )\\w+$", "");
+                    String printed = line.replaceFirst("(?<=^(passed|FAILED): )\\w+$", "");
                     hold(".ci/run prints: " + line, script.contains("echo \"" + printed));
                     lines++;
                 }
